@@ -1310,7 +1310,7 @@ public final class BidLines {
             int kind = tokens.kind;
             boolean comparison = isWithin(kind, LESS, GREATER);
             boolean second = comparison && (compared >> open & 1) == 1;
-            if (rankOf(kind) == 0 || second) {
+            if (rankOf(kind) == 0 || kind == NOT || second) {
                 return FAULT_TOKEN;
             }
             if (!meetKnot()) {
