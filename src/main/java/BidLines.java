@@ -1841,7 +1841,8 @@ public final class BidLines {
 
         /** Whether all KNOWN ones behind so many YEARS are so with a BID. */
         boolean allows(int behind, int bid) {
-            for (int i = 0; i < howManyKnown(); i++) {
+            int first = howManyKnown();
+            for (int i = 0; i < first; i++) {
                 boolean asked = kind[i] != STRIKE && !struck[i] && years[i] == behind;
                 boolean atLeast = bid >= value[i];
                 if (asked && atLeast != (kind[i] == BID_AT_LEAST)) {

@@ -72,7 +72,9 @@ public final class QuestionsTest {
         x = Check.of(late + "2;");
         x.go(1);
         CHECK.due("from now on", x.falls(0), 3);
-        x.go(3);
+        x.go(2);
+        CHECK.due("it is called next", x.falls(0), 1);
+        x.go(1);
         CHECK.due("it has", x.falls(0), 0);
         CHECK.due("to a", x.falls(1), 0);
         CHECK.due("at 1", x.falls(2), 1);
@@ -113,6 +115,7 @@ public final class QuestionsTest {
         CHECK.due("one", Check.of("house a 5 0 5 20 0;").outbid(), 1);
         CHECK.due("one that can't", Check.of("house a 4 0 5 20 0;").outbid(), -2);
         CHECK.due("no houses", new BidLines().outbid(), -2);
+        CHECK.due("fewer, not less", Check.of("house a 50 0 1 20 0;house b 20 0 1 20 0;house c 60 0 1 20 0;").outbid(), 4);
         BidLines x = Check.of("house a 50 0 1 20 0;house b 60 0 1 20 0;house c 59 0 1 20 0;");
         CHECK.due("b", x.outbid(), 2);
         x.marry(2, 1);
@@ -405,6 +408,17 @@ public final class QuestionsTest {
         CHECK.due("behind the other one's last raise", x.when(0, 9, 0), 2);
         CHECK.due("at", x.when(0, 9, 1), 15);
         CHECK.due("not ahead of it", x.when(0, 1, 0), -2);
+        CHECK.due("n itself", x.when(0, 2, 0), 2);
+        whenWithin();
+    }
+
+    /** Two raise in turn until a year; 20 calls later the table falls to b, whichever year it nodded in. */
+    private static void whenWithin() {
+        String both = "house a 999 0 1 20 0;house b 999 0 1 20 0;calls 20;law death 0;law raise year <= ";
+        BidLines x = Check.of(both + "99;");
+        CHECK.due("120 years from now", x.when(1, 40, 0), 1);
+        CHECK.due("at", x.when(1, 40, 1), 100);
+        CHECK.due("122 years from now", Check.of(both + "101;").when(1, 40, 0), -2);
     }
 
     private static void match() {
@@ -420,6 +434,10 @@ public final class QuestionsTest {
         String two = "house a 10 0 1 20 1;house b 20 0 10 20 1;house c 20 0 10 20 1;open 15;law death 0;calls 1;";
         CHECK.due("the first of several", Check.of(two).match(0), 1);
         CHECK.due("the least bound", Check.of(two + "house d 15 0 10 20 1;").match(0), 3);
+        String three = "house c 5 0 10 20 1;house b 6 0 10 20 1;house a 10 0 1 20 1;open 10;law death 0;calls 1;";
+        CHECK.due("the first one, which is less", Check.of(three).match(2), 0);
+        CHECK.due("the first one, as much", Check.of(three.replace("b 6", "b 5")).match(2), 0);
+        CHECK.due("the second one, which is less", Check.of(three.replace("b 6", "b 4")).match(2), 1);
         CHECK.due("no match is enough", Check.of("house a 1 0 9 20 1;house b 2 0 1 20 1;open 9;").match(0), -2);
         String late = "house a 9 9 1 20 0;house b 0 0 1 20 0;law death 0;calls 1;law raise year = ";
         CHECK.due("120 years", Check.of(late + "118;").match(0), 1);
@@ -457,7 +475,10 @@ public final class QuestionsTest {
         CHECK.due("not in", x.hush(1, 9), -1);
         CHECK.due("only those that are in", x.hush(2, 3), 1);
         x = Check.of("house a 9 0 1 20 0;house b 9 0 3 20 0;house c 9 0 3 20 0;house d 9 0 9 20 0;law death 0;");
-        CHECK.due("the least of several", x.hush(3, 4), 7);
+        CHECK.due("all three", x.hush(3, 4), 7);
+        x = Check.of("house a 99 0 5 20 0;house b 99 0 5 20 0;house c 99 0 8 20 0;house d 11 0 1 20 0;law death 0;");
+        CHECK.due("fewer, not less", x.hush(3, 4), 4);
+        x = Check.of("house a 9 0 1 20 0;house b 9 0 3 20 0;house c 9 0 3 20 0;house d 9 0 9 20 0;law death 0;");
         CHECK.due("a in 3 years", x.hush(0, 3), 6);
     }
 
@@ -514,6 +535,9 @@ public final class QuestionsTest {
         CHECK.due("step 1", x.tried(3, 0, 99), 1);
         CHECK.due("bounds 999", x.tried(4, 0, 99), 5);
         CHECK.due("heirs that are left", Check.of(DYING + "law will heirs * 100 + 20;").tried(1, 0, 99), 20);
+        CHECK.due("none is left", Check.of(DYING + "law will heirs * 100 + 7;").tried(1, 0, 99), 5);
+        CHECK.due("up to 999", Check.of("house a 0 0 9 20 0;open 990;").tried(4, 0, 1), 999);
+        CHECK.due("not 1000", Check.of("house a 0 0 10 20 0;open 990;").tried(4, 0, 1), 990);
         CHECK.due("bounds of wills", Check.of(DYING + "law will 7;").tried(1, 0, 99), 5);
         for (int what = -1; what < 6; what++) {
             boolean there = what >= 0 && what < 5;
@@ -552,6 +576,8 @@ public final class QuestionsTest {
         x.match(0);
         x.atMost();
         x.hush(0, 9);
+        x.hush(1, 1);
+        CHECK.due("nobody is hushed any more", x.ahead(1, 0), 50);
         x.see(1, 1, true);
         x.bounds(0);
         x.chance(1, 50, 0);

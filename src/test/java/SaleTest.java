@@ -91,6 +91,7 @@ public final class SaleTest {
         value("2 = 3", 0);
         value("2 <> 3", 1);
         value("2 <> 2", 0);
+        value("3 <> 2", 1);
         value("2 >= 3", 0);
         value("3 >= 3", 1);
         value("3 > 3", 0);
@@ -109,6 +110,17 @@ public final class SaleTest {
         value("0 and 0 or 1", 1);
         value("1 + 1 = 2 and 3 * 2 > 5", 1);
         value("(1 < 2) + (3 < 4)", 2);
+        value("5 = 1 + 1", 0);
+        value("0 < 0 - 1", 0);
+        value("2 * (3 + 4) * 5", 70);
+        value("2 - (3 - (4 - 5)) - 6", -8);
+        value("1 + (not 2)", 1);
+        value("1 + (not 0 or 0)", 2);
+        value("not 0 = (not 1)", 0);
+        value("not ".repeat(63) + "1", 0);
+        value("((((((((" + "not ".repeat(63) + "1))))))))", 0);
+        value("((((((((" + "not ".repeat(62) + "1))))))))", 1);
+        value("1+(1+(1+(1+(1+(1+(1+(1+(1))))))))", 9);
         BidLines x = Check.of("house a 99 34 5 7 8;calls 9;law will year * 100 + called;");
         x.nod(0);
         x.go(3);
@@ -146,7 +158,7 @@ public final class SaleTest {
     }
 
     private static void numbers() {
-        for (int seed : new int[] {0, 1, 7, 4711, 99999}) {
+        for (int seed = 0; seed < 99999; seed += 1249) {
             BidLines x = Check.of("house a 0 0 1 20 9;house b 0 0 1 20 9;house c 0 0 1 20 9;house d 0 0 1 20 9;"
                     + "law death (bound = 0) * 37 + (year / 2 * 2 = year) * 20;seed " + seed + ";");
             long last = seed;
@@ -452,6 +464,17 @@ public final class SaleTest {
         CHECK.due("last bid", x.house(1, 7), -1);
         CHECK.due("raised", x.house(1, 6), 0);
         CHECK.due("none is left", x.undo(), -1);
+        x.nod(1);
+        x.nod(0);
+        x.nod(1);
+        x.nod(0);
+        x.undo();
+        CHECK.due("raised twice", x.house(0, 6), 2);
+        CHECK.due("last bid", x.house(0, 7), 40);
+        x.undo();
+        CHECK.due("raised once", x.house(1, 6), 1);
+        CHECK.due("last bid", x.house(1, 7), 30);
+        CHECK.due("bid", x.count(4), 40);
         undoingTwenty();
     }
 
@@ -470,30 +493,33 @@ public final class SaleTest {
     }
 
     private static void images() {
-        BidLines x = Check.of("house a 500 1 10 20 9;house b 500 1 20 20 9;part p 3 0;law death 50;law will bound - 1;"
-                + "calls 20;seed 3;");
+        BidLines x = Check.of("house a 500 1 10 20 9;house b 500 1 20 20 9;part p 4 0;law death 50;law will bound - 1;"
+                + "calls 20;seed 3;law raise year < 1;");
         CHECK.due("none", x.back(), -1);
         x.go(2);
-        x.nod(0);
-        CHECK.due("keep", x.keep(), 2);
+        x.nod(1);
+        x.go(2);
+        x.child(0);
+        CHECK.due("keep", x.keep(), 4);
+        CHECK.due("called", x.count(6), 2);
         CHECK.due("keep leaves what can be undone", x.count(12), 1);
         long[] kept = standing(x);
         x.see(1, 1, true);
         x.go(9);
         x.marry(0, 1);
         long[] later = standing(x);
-        CHECK.due("back", x.back(), 2);
+        CHECK.due("back", x.back(), 4);
         same("back", kept, standing(x));
         CHECK.due("nothing to undo", x.undo(), -1);
         CHECK.due("seen stays", x.count(10), 1);
         x.go(9);
         x.marry(0, 1);
         same("the same numbers come again", later, standing(x));
-        CHECK.due("back again", x.back(), 2);
+        CHECK.due("back again", x.back(), 4);
         x.go(1);
-        CHECK.due("in place of one ahead", x.keep(), 3);
+        CHECK.due("in place of one ahead", x.keep(), 5);
         x.go(1);
-        CHECK.due("back", x.back(), 3);
+        CHECK.due("back", x.back(), 5);
     }
 
     private static long[] standing(BidLines x) {

@@ -96,6 +96,15 @@ public final class SeenTest {
         x = Check.of("house a 0 0 20 20 0;house b 0 0 20 20 0;calls 1;law death 0;");
         x.see(1, 20, false);
         CHECK.due("0 alone", x.bounds(0), 1);
+        for (int i = 0; i < 10; i++) {
+            for (int step = 20 * i - 1; step <= 20 * i + 1; step++) {
+                if (step >= 1 && step <= 99) {
+                    x = Check.of("house a 0 0 " + step + " 20 0;law death 0;");
+                    x.see(1, 1, true);
+                    CHECK.due("so many may go to " + step, x.bounds(0), 1023 >> (step + 19) / 20 << (step + 19) / 20);
+                }
+            }
+        }
         x = Check.of("house a 0 0 20 20 0;house b 999 0 20 20 0;calls 1;law death 0;");
         x.see(99, 180, true);
         CHECK.due("with 160 b has it at 160, with 180 at 200", x.bounds(0), 512);

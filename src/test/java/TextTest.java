@@ -6,6 +6,7 @@ public final class TextTest {
         newObject();
         tape();
         textAnswers();
+        textsInARow();
         faultsOfTokens();
         faultsOfSigns();
         faultsOfTooMuch();
@@ -25,6 +26,8 @@ public final class TextTest {
         }
         CHECK.due("new fault(0)", x.fault(0), 0);
         CHECK.due("new fault(1)", x.fault(1), -1);
+        CHECK.due("new back()", x.back(), -1);
+        CHECK.due("new undo()", x.undo(), -1);
         CHECK.due("new text(1)", x.text(1), -2);
         CHECK.due("new text(0)", x.text(0), 0);
         CHECK.due("new turn()", x.turn(), -2);
@@ -76,6 +79,35 @@ public final class TextTest {
         int[] house = {90, 80, 7, 6, 5, 1, 0, -1};
         for (int i = 0; i < house.length; i++) {
             CHECK.due("house(0, " + i + ")", x.house(0, i), house[i]);
+        }
+    }
+
+    /** Nothing of an earlier text is left, with a fault or without. */
+    private static void textsInARow() {
+        BidLines x = new BidLines();
+        String full = "house a 1 1 1 88 0;house b 1 1 1 1 1;part p 1 1;calls 1;open 7;seed 9;law death ("
+                + ones(20) + ") * 100;law will 1;law raise 1;";
+        for (int i = 0; i < 5; i++) {
+            CHECK.due("nine lines", Check.tell(x, full), 9);
+            CHECK.due("knots", x.count(2), 43);
+            x.go(3);
+            CHECK.due("died", x.count(9), 3);
+            CHECK.due("a fault in a formula", Check.tell(x, "law death 1 < (2 + (3 and"), -1);
+            CHECK.due("one house", Check.tell(x, "house c 9 9 1 20 9;"), 1);
+            int[] counts = {1, 0, 0, 0, 0, -1, 0, 0, 1, 0, 0, 0, 0};
+            for (int k = 0; k < counts.length; k++) {
+                CHECK.due("count(" + k + ")", x.count(k), counts[k]);
+            }
+            for (int what = 0; what < 3; what++) {
+                CHECK.due("no law " + what, x.law(what, 0), Long.MIN_VALUE);
+            }
+            CHECK.due("a is gone", x.named(0, Check.letters("a")), -1);
+            CHECK.due("p is gone", x.named(1, Check.letters("p")), -1);
+            CHECK.due("calls 3", x.falls(0), 4);
+            CHECK.due("seed 0", Check.tell(x, "house a 1 1 1 20 9;law death 1;"), 2);
+            x.go(1);
+            CHECK.due("the first number is 0", x.count(9), 1);
+            CHECK.due("full again", Check.tell(x, "law will 1 < 2;calls 2;"), 2);
         }
     }
 
