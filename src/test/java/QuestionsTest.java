@@ -299,6 +299,7 @@ public final class QuestionsTest {
         CHECK.due("together", Check.of(poor + "2;").shares(0, 1), 49);
         CHECK.due("not together", Check.of(poor + "3;").shares(0, 1), 0);
         CHECK.due("bid beyond worth", Check.of("house a 99 5 1 20 0;house b 99 3 1 20 0;open 9;").shares(0, 1), 0);
+        CHECK.due("worth nothing", Check.of("house a 99 0 1 20 0;house b 99 0 1 20 0;").shares(0, 1), 0);
         CHECK.due("odd", Check.of("house a 1 7 9 20 0;house b 9 2 9 20 0;").shares(1, 0), 4);
         CHECK.due("bound is step", Check.of("house a 9 7 9 20 0;house b 0 2 9 20 0;").shares(0, 1), 7);
     }

@@ -71,6 +71,9 @@ public final class SeenTest {
         CHECK.due("a strike that isn't known", x.bounds(1), 0);
         CHECK.due("known(3)", x.known(3), true);
         CHECK.due("less than 60 alone", x.bounds(1), 7);
+        x.known(1);
+        CHECK.due("not struck any more", x.bounds(1), 1016);
+        x.known(3);
         CHECK.due("known(4)", x.known(4), false);
         CHECK.due("by 3 still", x.count(11), 3);
         x.strike(1);

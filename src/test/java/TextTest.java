@@ -33,6 +33,8 @@ public final class TextTest {
         CHECK.due("new turn()", x.turn(), -2);
         CHECK.due("new go(99)", x.go(99), 99);
         CHECK.due("new falls(0)", x.falls(0), -2);
+        CHECK.due("new see", x.see(1, 0, true), 0);
+        CHECK.due("new: all known", x.count(11), 1);
     }
 
     private static void tape() {
