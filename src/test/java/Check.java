@@ -2,12 +2,30 @@
 final class Check {
     private int wrong = 0;
     private int asked = 0;
+    /** The test that runs, told ahead of its first wrong answer; null: it is told already. */
+    private String running = null;
+
+    void begin(String test) {
+        running = test;
+    }
+
+    int asked() {
+        return asked;
+    }
+
+    void fail(String why) {
+        wrong++;
+        if (running != null) {
+            System.out.println(running);
+            running = null;
+        }
+        System.out.println("  " + why);
+    }
 
     void due(String what, long got, long want) {
         asked++;
         if (got != want) {
-            wrong++;
-            System.out.println(what + " answered " + got + ", due is " + want);
+            fail(what + " answered " + got + ", due is " + want);
         }
     }
 
@@ -26,6 +44,66 @@ final class Check {
             kind = 2;
         }
         due("house(" + house + ", " + what + ") throws", kind, want);
+    }
+
+    /** The FAULT of a text and its place; kind 0, place -1: it has none. */
+    void dueFault(String text, int kind, int place) {
+        BidLines x = new BidLines();
+        due("text '" + text + "'", tell(x, text) < 0, kind != 0);
+        due("fault(0) of '" + text + "'", x.fault(0), kind);
+        due("fault(1) of '" + text + "'", x.fault(1), place);
+    }
+
+    void dueGood(String text, int lines) {
+        BidLines x = new BidLines();
+        due("text '" + text + "'", tell(x, text), lines);
+        due("fault(0) of '" + text + "'", x.fault(0), 0);
+        due("fault(1) of '" + text + "'", x.fault(1), -1);
+    }
+
+    /** house(house, 0), house(house, 1) and so on. */
+    void dueHouse(BidLines x, int house, int... want) {
+        for (int what = 0; what < want.length; what++) {
+            due("house(" + house + ", " + what + ")", x.house(house, what), want[what]);
+        }
+    }
+
+    /** count(0), count(1) and so on. */
+    void dueCounts(BidLines x, int... want) {
+        for (int what = 0; what < want.length; what++) {
+            due("count(" + what + ")", x.count(what), want[what]);
+        }
+    }
+
+    /** All that count(), house() and part() tell. */
+    static String picture(BidLines x) {
+        StringBuilder all = new StringBuilder();
+        for (int what = 0; what <= 12; what++) {
+            all.append(x.count(what)).append(' ');
+        }
+        for (int house = 0; house < x.count(0); house++) {
+            for (int what = 0; what <= 7; what++) {
+                all.append(x.house(house, what)).append(' ');
+            }
+        }
+        for (int part = 0; part < x.count(1); part++) {
+            for (int what = 0; what <= 2; what++) {
+                all.append(x.part(part, what)).append(' ');
+            }
+        }
+        return all.toString();
+    }
+
+    void dueSame(String what, String got, String want) {
+        asked++;
+        if (!got.equals(want)) {
+            fail(what + " is " + got + ", due is " + want);
+        }
+    }
+
+    /** What E tells of a house with BOUND 12, WORTH 34, STEP 5, AGE 67, HEIRS 8 at a BID of 9. */
+    void dueValue(String e, long want) {
+        due(e, of("house a 12 34 5 67 8;open 9;law will " + e + ";").law(1, 0), want);
     }
 
     void finish(String name) {
@@ -65,6 +143,17 @@ final class Check {
             throw new IllegalStateException("fault " + x.fault(0) + " at " + x.fault(1) + " of " + text);
         }
         return x;
+    }
+
+    /** The numbers as the document tells them, by another road than the program's. */
+    static long nextNumber(long last) {
+        return java.math.BigInteger.valueOf(last).multiply(java.math.BigInteger.valueOf(1103515245))
+                .add(java.math.BigInteger.valueOf(12345)).mod(java.math.BigInteger.ONE.shiftLeft(31)).longValue();
+    }
+
+    /** What a number is modulo 100, of the last one. */
+    static int drawn(long last) {
+        return (int) (last / 65536 % 100);
     }
 
     static int letters(String name) {

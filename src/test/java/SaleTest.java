@@ -63,8 +63,7 @@ public final class SaleTest {
     }
 
     private static void value(String e, long due) {
-        BidLines x = Check.of("house a 12 34 5 67 8;open 9;law will " + e + ";");
-        CHECK.due(e, x.law(1, 0), due);
+        CHECK.dueValue(e, due);
     }
 
     private static void values() {
@@ -151,12 +150,6 @@ public final class SaleTest {
         value("1 / 0 = 1 / 0", error);
     }
 
-    /** The numbers as the document tells them, by another road than the program's. */
-    private static long next(long last) {
-        return java.math.BigInteger.valueOf(last).multiply(java.math.BigInteger.valueOf(1103515245))
-                .add(java.math.BigInteger.valueOf(12345)).mod(java.math.BigInteger.ONE.shiftLeft(31)).longValue();
-    }
-
     private static void numbers() {
         for (int seed = 0; seed < 99999; seed += 1249) {
             BidLines x = Check.of("house a 0 0 1 20 9;house b 0 0 1 20 9;house c 0 0 1 20 9;house d 0 0 1 20 9;"
@@ -167,8 +160,8 @@ public final class SaleTest {
             for (int year = 0; year < 14; year++) {
                 for (int h = 0; h < 4; h++) {
                     if (heirs[h] >= 0) {
-                        last = next(last);
-                        boolean dies = last / 65536 % 100 < (year % 2 == 0 ? 57 : 37);
+                        last = Check.nextNumber(last);
+                        boolean dies = Check.drawn(last) < (year % 2 == 0 ? 57 : 37);
                         heirs[h] -= dies ? 1 : 0;
                         died += dies ? 1 : 0;
                     }
@@ -182,7 +175,7 @@ public final class SaleTest {
             }
         }
         // 0 and 100 take no number: the second house sees the first one
-        long first = next(5) / 65536 % 100;
+        long first = Check.drawn(Check.nextNumber(5));
         for (String e : new String[] {"0", "100", "0 - 5", "9999"}) {
             BidLines x = Check.of("house a 0 0 1 20 9;house b 1 0 1 20 9;seed 5;law death (bound = 0) * (" + e
                     + ") + bound * " + first + ";");

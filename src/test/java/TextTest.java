@@ -114,15 +114,11 @@ public final class TextTest {
     }
 
     private static void fault(String text, int kind, int place) {
-        BidLines x = new BidLines();
-        int got = Check.tell(x, text);
-        CHECK.due("text '" + text + "'", got < 0, kind != 0);
-        CHECK.due("fault(0) of '" + text + "'", x.fault(0), kind);
-        CHECK.due("fault(1) of '" + text + "'", x.fault(1), place);
+        CHECK.dueFault(text, kind, place);
     }
 
     private static void good(String text) {
-        fault(text, 0, -1);
+        CHECK.dueFault(text, 0, -1);
     }
 
     private static void faultsOfTokens() {
