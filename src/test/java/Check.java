@@ -1,5 +1,12 @@
 /** Counts answers that are not as due; makes objects of BidLines from texts. */
 final class Check {
+    static final int LEAST = Integer.MIN_VALUE;
+    static final int GREATEST = Integer.MAX_VALUE;
+    /** Numbers of no HOUSE, where two are told; those beyond 31 would come round where they are bits. */
+    static final int[] NO_HOUSE = {-1, 2, 3, 5, 6, 7, 31, 32, 33, 64, -31, -32, LEAST, GREATEST};
+    /** a bids 10, b 15, a 25, then none may; FALLEN behind YEAR 5. */
+    static final String DUEL = "house a 30 0 10 20 0;house b 25 0 5 20 0;law death 0;";
+
     private int wrong = 0;
     private int asked = 0;
     /** The test that runs, told ahead of its first wrong answer; null: it is told already. */

@@ -1,14 +1,10 @@
 /** Promises 1 to 13: a new object, the tape, the text, how things stand, what is done by call, years; each sentence. */
 public final class Promises01To13Test {
     private static final Check CHECK = new Check();
-    private static final int LEAST = Integer.MIN_VALUE;
-    private static final int GREATEST = Integer.MAX_VALUE;
     private static final int BLANKS = 0x20202020;
     private static final String TWO = "house a 100 200 10 30 1;house b 95 150 20 50 0;part p 9 3;part q 4 0;open 20;"
             + "law death 0;law raise 0;calls 2;";
-    /** Numbers of no HOUSE, where two are told; those beyond 31 would come round where they are bits. */
-    private static final int[] NO_HOUSE = {-1, 2, 3, 5, 6, 7, 31, 32, 33, 64, -31, -32, LEAST, GREATEST};
-    private static final int[] NO_WHAT = {-1, -2, 32, LEAST, GREATEST};
+    private static final int[] NO_WHAT = {-1, -2, 32, Check.LEAST, Check.GREATEST};
 
     public static void main(String[] args) throws IllegalAccessException {
         Sentences.run(Promises01To13Test.class, CHECK);
@@ -43,6 +39,10 @@ public final class Promises01To13Test {
         CHECK.due("KNOWN", x.count(11), 1);
         CHECK.due("keep", x.keep(), 99);
         CHECK.due("back", x.back(), 99);
+        // all is KNOWN without a text(), too
+        x = new BidLines();
+        CHECK.due("see", x.see(1, 0, true), 0);
+        CHECK.due("KNOWN", x.count(11), 1);
     }
 
     @Says(promise = 2,
@@ -134,6 +134,14 @@ public final class Promises01To13Test {
         CHECK.due("nothing to undo", x.undo(), -1);
         CHECK.due("SEEN from 0 on", x.see(1, 0, true), 0);
         CHECK.due("all KNOWN, also those to come", x.count(11), 1);
+        // KNOWN by none, and CALLED, ahead of it
+        x.known(0);
+        x.go(3);
+        CHECK.dueCounts(x, 2, 1, 8, 3, 1, 0, 2, 0, 2, 0, 1, 0, 0);
+        Check.tell(x, text);
+        CHECK.dueSame("all", Check.picture(x), fresh);
+        x.see(1, 0, true);
+        CHECK.due("all KNOWN", x.count(11), 1);
         // one without LINES
         x.keep();
         CHECK.due("text(0)", x.text(0), 0);
@@ -181,7 +189,7 @@ public final class Promises01To13Test {
         BidLines x = new BidLines();
         CHECK.due("one of none", x.text(1), -2);
         Check.put(x, "calls 3;calls 4;");
-        for (int n : new int[] {21, 22, 700, 701, GREATEST, -1, -2, LEAST}) {
+        for (int n : new int[] {21, 22, 700, 701, Check.GREATEST, -1, -2, Check.LEAST}) {
             CHECK.due("text(" + n + ")", x.text(n), -2);
         }
         CHECK.due("no FAULT of it", x.fault(0), 0);
@@ -244,13 +252,19 @@ public final class Promises01To13Test {
         CHECK.due("b", x.named(1, 2 << 25), 1);
         x.marry(0, 1);
         CHECK.due("one that is ENDED", x.named(0, 26 << 25), 1);
+        // the last of six, without any of the other kind
+        x = Check.of("part a 1 1;part b 1 1;part c 1 1;part d 1 1;part e 1 1;part f 1 1;");
+        CHECK.due("PART f", x.named(1, 6 << 25), 5);
+        x = Check.of("house a 1 1 1 1 1;house b 1 1 1 1 1;house c 1 1 1 1 1;house d 1 1 1 1 1;house e 1 1 1 1 1;"
+                + "house f 1 1 1 1 1;");
+        CHECK.due("HOUSE f", x.named(0, 6 << 25), 5);
     }
 
     @Says(promise = 5, sentence = "NONE: there is none such.")
     static void p05NoneSuch() {
         BidLines x = Check.of("house a 1 1 1 1 1;part b 1 1;");
-        int[] letters = {0, 1, -1, LEAST, GREATEST, 1 << 20, 1 << 25 | 1, 1 << 25 | 1 << 30, 1 << 25 | 1 << 31, 2 << 25,
-            3 << 25, 1 << 25 | 1 << 20};
+        int[] letters = {0, 1, -1, Check.LEAST, Check.GREATEST, 1 << 20, 1 << 25 | 1, 1 << 25 | 1 << 30,
+            1 << 25 | 1 << 31, 2 << 25, 3 << 25, 1 << 25 | 1 << 20};
         for (int name : letters) {
             CHECK.due("named(0, " + name + ")", x.named(0, name), -1);
         }
@@ -260,10 +274,16 @@ public final class Promises01To13Test {
         }
         CHECK.due("named(2, a)", x.named(2, 1 << 25), -1);
         CHECK.due("named(2, 0)", x.named(2, 0), -1);
-        // names of a TEXT ahead
-        Check.tell(x, "house c 1 1 1 1 1;");
-        CHECK.due("a is gone", x.named(0, 1 << 25), -1);
-        CHECK.due("b is gone", x.named(1, 2 << 25), -1);
+        // names of the TEXTS ahead, where there are fewer of a kind now than there were
+        Check.tell(x, "house c 1 1 1 1 1;part e 1 1;part f 1 1;");
+        Check.tell(x, "calls 1;");
+        Check.tell(x, "house c 1 1 1 1 1;house d 1 1 1 1 1;part e 1 1;");
+        CHECK.due("HOUSE a is gone", x.named(0, 1 << 25), -1);
+        CHECK.due("PART b is gone", x.named(1, 2 << 25), -1);
+        CHECK.due("PART f is gone", x.named(1, 6 << 25), -1);
+        Check.tell(x, "calls 1;");
+        Check.tell(x, "house c 1 1 1 1 1;part e 1 1;part f 1 1;");
+        CHECK.due("HOUSE d is gone", x.named(0, 4 << 25), -1);
     }
 
     // ---- 6, 7, 8: house, part, law
@@ -288,8 +308,8 @@ public final class Promises01To13Test {
     @Says(promise = 6, sentence = "IndexOutOfBoundsException: no such HOUSE.")
     static void p06NoSuchHouse() {
         BidLines x = Check.of(TWO);
-        for (int house : NO_HOUSE) {
-            for (int what : new int[] {0, 7, 8, -1, GREATEST}) {
+        for (int house : Check.NO_HOUSE) {
+            for (int what : new int[] {0, 7, 8, -1, Check.GREATEST}) {
                 CHECK.dueThrow(x, house, what, 1);
             }
         }
@@ -331,7 +351,7 @@ public final class Promises01To13Test {
     @Says(promise = 7, sentence = "NONE: no such ones.")
     static void p07NoSuchOnes() {
         BidLines x = Check.of(TWO);
-        for (int part : NO_HOUSE) {
+        for (int part : Check.NO_HOUSE) {
             CHECK.due("part(" + part + ", 0)", x.part(part, 0), -1);
         }
         for (int what : NO_WHAT) {
@@ -374,7 +394,7 @@ public final class Promises01To13Test {
         for (int what : NO_WHAT) {
             CHECK.due("law(" + what + ", 0)", x.law(what, 0), none);
         }
-        for (int house : NO_HOUSE) {
+        for (int house : Check.NO_HOUSE) {
             CHECK.due("law(2, " + house + ")", x.law(2, house), none);
         }
         CHECK.due("no HOUSES", Check.of("law raise 5;").law(2, 0), none);
@@ -446,7 +466,7 @@ public final class Promises01To13Test {
     @Says(promise = 9, sentence = "NONE: no such HOUSE.")
     static void p09NoSuchHouse() {
         BidLines x = Check.of(TWO);
-        for (int house : NO_HOUSE) {
+        for (int house : Check.NO_HOUSE) {
             dueRefused(x, house, -1);
         }
         x.nod(0);
@@ -532,7 +552,7 @@ public final class Promises01To13Test {
         BidLines x = Check.of(TWO + "house c 99 0 1 20 0;");
         x.marry(0, 1);
         String stands = Check.picture(x);
-        for (int house : NO_HOUSE) {
+        for (int house : Check.NO_HOUSE) {
             if (house != 2) {
                 CHECK.due("marry(0, " + house + ")", x.marry(0, house), false);
                 CHECK.due("marry(" + house + ", 0)", x.marry(house, 0), false);
@@ -565,10 +585,10 @@ public final class Promises01To13Test {
     static void p11NoSuchOnes() {
         BidLines x = Check.of(TWO);
         String stands = Check.picture(x);
-        for (int house : NO_HOUSE) {
+        for (int house : Check.NO_HOUSE) {
             CHECK.due("will(" + house + ", 5)", x.will(house, 5), false);
         }
-        for (int bound : new int[] {-1, 10000, LEAST, GREATEST}) {
+        for (int bound : new int[] {-1, 10000, Check.LEAST, Check.GREATEST}) {
             CHECK.due("will(0, " + bound + ")", x.will(0, bound), false);
         }
         CHECK.dueSame("all", Check.picture(x), stands);
@@ -611,7 +631,7 @@ public final class Promises01To13Test {
         BidLines x = Check.of(TWO);
         x.marry(0, 1);
         String stands = Check.picture(x);
-        for (int house : NO_HOUSE) {
+        for (int house : Check.NO_HOUSE) {
             CHECK.due("child(" + house + ")", x.child(house), -1);
         }
         CHECK.due("not IN", x.child(1), -1);
@@ -655,7 +675,7 @@ public final class Promises01To13Test {
         BidLines x = Check.of(TWO);
         x.child(0);
         String stands = Check.picture(x);
-        for (int n : new int[] {-1, 100, 101, LEAST, GREATEST}) {
+        for (int n : new int[] {-1, 100, 101, Check.LEAST, Check.GREATEST}) {
             CHECK.due("go(" + n + ")", x.go(n), -1);
         }
         CHECK.dueSame("all", Check.picture(x), stands);

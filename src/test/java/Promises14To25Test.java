@@ -1,13 +1,7 @@
 /** Promises 14 to 25: what comes, how the table is to be had, what is shared; each sentence. */
 public final class Promises14To25Test {
     private static final Check CHECK = new Check();
-    private static final int LEAST = Integer.MIN_VALUE;
-    private static final int GREATEST = Integer.MAX_VALUE;
-    /** a bids 10, b 15, a 25, then none may; FALLEN behind YEAR 5. */
-    private static final String DUEL = "house a 30 0 10 20 0;house b 25 0 5 20 0;law death 0;";
-    /** Numbers of no HOUSE, where two are told; those beyond 31 would come round where they are bits. */
-    private static final int[] NO_HOUSE = {-1, 2, 3, 5, 6, 7, 31, 32, 33, 64, -31, -32, LEAST, GREATEST};
-    private static final int[] NO_WHAT = {-1, -2, 4, 32, LEAST, GREATEST};
+    private static final int[] NO_WHAT = {-1, -2, 4, 32, Check.LEAST, Check.GREATEST};
 
     public static void main(String[] args) throws IllegalAccessException {
         Sentences.run(Promises14To25Test.class, CHECK);
@@ -15,7 +9,7 @@ public final class Promises14To25Test {
 
     /** Two that are IN and one, the last, that isn't. */
     private static BidLines withOneEnded() {
-        BidLines x = Check.of(DUEL + "house c 0 0 1 20 0;");
+        BidLines x = Check.of(Check.DUEL + "house c 0 0 1 20 0;");
         x.marry(0, 2);
         return x;
     }
@@ -24,7 +18,7 @@ public final class Promises14To25Test {
 
     @Says(promise = 14, sentence = "AHEAD (n 0 .. 99),")
     static void p14Ahead() {
-        BidLines x = Check.of(DUEL);
+        BidLines x = Check.of(Check.DUEL);
         String stands = Check.picture(x);
         CHECK.due("0", x.ahead(0, 0), 0);
         CHECK.due("1", x.ahead(1, 0), 10);
@@ -39,7 +33,7 @@ public final class Promises14To25Test {
 
     @Says(promise = 14, sentence = "what 0 BID, 1 who LEADS (-2: nobody), 2 IN, 3 DIED.")
     static void p14What() {
-        BidLines x = Check.of(DUEL);
+        BidLines x = Check.of(Check.DUEL);
         CHECK.due("nobody", x.ahead(0, 1), -2);
         CHECK.due("nobody in 99", Check.of("house a 0 0 1 20 0;").ahead(99, 1), -2);
         CHECK.due("nobody of none", new BidLines().ahead(99, 1), -2);
@@ -59,8 +53,8 @@ public final class Promises14To25Test {
 
     @Says(promise = 14, sentence = "NONE: no such ones.")
     static void p14NoSuchOnes() {
-        BidLines x = Check.of(DUEL);
-        for (int n : new int[] {-1, 100, 101, LEAST, GREATEST}) {
+        BidLines x = Check.of(Check.DUEL);
+        for (int n : new int[] {-1, 100, 101, Check.LEAST, Check.GREATEST}) {
             for (int what = 0; what < 4; what++) {
                 CHECK.due("ahead(" + n + ", " + what + ")", x.ahead(n, what), -1);
             }
@@ -72,7 +66,7 @@ public final class Promises14To25Test {
 
     @Says(promise = 15, sentence = "FALLS, what 0: in how many YEARS, 1: to whom, 2: at which BID.")
     static void p15Falls() {
-        BidLines x = Check.of(DUEL);
+        BidLines x = Check.of(Check.DUEL);
         int[] due = {6, 0, 25};
         for (int what = 0; what < 3; what++) {
             CHECK.due("falls(" + what + ")", x.falls(what), due[what]);
@@ -107,7 +101,7 @@ public final class Promises14To25Test {
 
     @Says(promise = 15, sentence = "NONE for another what.")
     static void p15AnotherWhat() {
-        BidLines x = Check.of(DUEL);
+        BidLines x = Check.of(Check.DUEL);
         for (int what : NO_WHAT) {
             CHECK.due("falls(" + what + ")", x.falls(what), -1);
         }
@@ -121,7 +115,7 @@ public final class Promises14To25Test {
 
     @Says(promise = 16, sentence = "LET GO;")
     static void p16LetGo() {
-        BidLines x = Check.of(DUEL);
+        BidLines x = Check.of(Check.DUEL);
         String stands = Check.picture(x);
         CHECK.due("a has it", x.letGo(0), 0);
         CHECK.due("b must go to 30", x.letGo(1), 5);
@@ -146,8 +140,8 @@ public final class Promises14To25Test {
 
     @Says(promise = 16, sentence = "NONE: no such HOUSE, not IN.")
     static void p16NoSuchHouse() {
-        BidLines x = Check.of(DUEL);
-        for (int house : NO_HOUSE) {
+        BidLines x = Check.of(Check.DUEL);
+        for (int house : Check.NO_HOUSE) {
             CHECK.due("letGo(" + house + ")", x.letGo(house), -1);
         }
         x.marry(0, 1);
@@ -200,7 +194,7 @@ public final class Promises14To25Test {
     static void p18NoSuchOnes() {
         BidLines x = withOneEnded();
         for (int what = 0; what < 2; what++) {
-            for (int house : NO_HOUSE) {
+            for (int house : Check.NO_HOUSE) {
                 CHECK.due("against(0, " + house + ", " + what + ")", x.against(0, house, what), -1);
                 CHECK.due("against(" + house + ", 0, " + what + ")", x.against(house, 0, what), -1);
             }
@@ -233,7 +227,7 @@ public final class Promises14To25Test {
 
     @Says(promise = 20, sentence = "MOST.")
     static void p20Most() {
-        BidLines x = Check.of(DUEL);
+        BidLines x = Check.of(Check.DUEL);
         String stands = Check.picture(x);
         CHECK.due("10, 15, 25", x.most(), 3);
         CHECK.dueSame("nothing changes", Check.picture(x), stands);
@@ -305,12 +299,12 @@ public final class Promises14To25Test {
 
     @Says(promise = 23, sentence = "NONE: no such ones, not IN.")
     static void p23NoSuchOnes() {
-        BidLines x = Check.of(DUEL);
+        BidLines x = Check.of(Check.DUEL);
         for (int what = 0; what < 2; what++) {
-            for (int house : NO_HOUSE) {
+            for (int house : Check.NO_HOUSE) {
                 CHECK.due("lives(" + house + ", 1, " + what + ")", x.lives(house, 1, what), -1);
             }
-            for (int n : new int[] {-1, 7, 8, LEAST, GREATEST}) {
+            for (int n : new int[] {-1, 7, 8, Check.LEAST, Check.GREATEST}) {
                 CHECK.due("lives(0, " + n + ", " + what + ")", x.lives(0, n, what), -1);
             }
         }
@@ -335,7 +329,7 @@ public final class Promises14To25Test {
     @Says(promise = 24, sentence = "NONE: no such HOUSES, alike, not both IN.")
     static void p24NoSuchHouses() {
         BidLines x = withOneEnded();
-        for (int house : NO_HOUSE) {
+        for (int house : Check.NO_HOUSE) {
             CHECK.due("shares(0, " + house + ")", x.shares(0, house), -1);
             CHECK.due("shares(" + house + ", 0)", x.shares(house, 0), -1);
         }
@@ -349,7 +343,7 @@ public final class Promises14To25Test {
 
     @Says(promise = 25, sentence = "Whose TURN it is this YEAR;")
     static void p25Turn() {
-        BidLines x = Check.of(DUEL + "house c 0 0 1 20 0;");
+        BidLines x = Check.of(Check.DUEL + "house c 0 0 1 20 0;");
         for (int year = 0; year < 7; year++) {
             CHECK.due("YEAR " + year, x.turn(), year % 3);
             x.go(1);

@@ -1,14 +1,8 @@
 /** Promises 26 to 35: shares of three, what comes next, nods, matches, the table in years to come; each sentence. */
 public final class Promises26To35Test {
     private static final Check CHECK = new Check();
-    private static final int LEAST = Integer.MIN_VALUE;
-    private static final int GREATEST = Integer.MAX_VALUE;
-    /** a bids 10, b 15, a 25, then none may; FALLEN behind YEAR 5. */
-    private static final String DUEL = "house a 30 0 10 20 0;house b 25 0 5 20 0;law death 0;";
     private static final String THREE = "house a 10 30 1 20 0;house b 10 30 1 20 0;house c 10 30 1 20 0;open 25;";
-    /** Numbers of no HOUSE, where two are told; those beyond 31 would come round where they are bits. */
-    private static final int[] NO_HOUSE = {-1, 2, 3, 5, 6, 7, 31, 32, 33, 64, -31, -32, LEAST, GREATEST};
-    private static final int[] NO_WHAT = {-1, -2, 2, 3, 32, LEAST, GREATEST};
+    private static final int[] NO_WHAT = {-1, -2, 2, 3, 32, Check.LEAST, Check.GREATEST};
 
     public static void main(String[] args) throws IllegalAccessException {
         Sentences.run(Promises26To35Test.class, CHECK);
@@ -31,7 +25,7 @@ public final class Promises26To35Test {
     static void p26NoSuchOnes() {
         BidLines x = Check.of(THREE + "house d 1 1 1 20 0;");
         x.marry(0, 3);
-        for (int house : new int[] {-1, 3, 4, 5, 6, 32, 33, 34, LEAST, GREATEST}) {
+        for (int house : new int[] {-1, 3, 4, 5, 6, 32, 33, 34, Check.LEAST, Check.GREATEST}) {
             CHECK.due("first " + house, x.stays(house, 1, 2, 0, 0), -1);
             CHECK.due("second " + house, x.stays(0, house, 2, 0, 0), -1);
             CHECK.due("third " + house, x.stays(0, 1, house, 0, 0), -1);
@@ -42,7 +36,7 @@ public final class Promises26To35Test {
             CHECK.due("the first one and the last one alike", x.stays(house, (house + 1) % 3, house, 0, 0), -1);
             CHECK.due("all alike", x.stays(house, house, house, 0, 0), -1);
         }
-        for (int number : new int[] {-10000, 10000, LEAST, GREATEST}) {
+        for (int number : new int[] {-10000, 10000, Check.LEAST, Check.GREATEST}) {
             CHECK.due("x " + number, x.stays(0, 1, 2, number, 0), -1);
             CHECK.due("y " + number, x.stays(0, 1, 2, 0, number), -1);
         }
@@ -52,7 +46,7 @@ public final class Promises26To35Test {
     @Says(promise = 27, sentence = "In how many YEARS as it goes, 99 at most (1: this one), what 0: the BID is RAISED next, "
             + "1: by whom.")
     static void p27NextRaise() {
-        BidLines x = Check.of(DUEL);
+        BidLines x = Check.of(Check.DUEL);
         String stands = Check.picture(x);
         CHECK.due("this YEAR", x.nextRaise(0), 1);
         CHECK.due("by a", x.nextRaise(1), 0);
@@ -61,7 +55,7 @@ public final class Promises26To35Test {
         CHECK.due("this YEAR", x.nextRaise(0), 1);
         CHECK.due("by b", x.nextRaise(1), 1);
         // b LEADS by its nod: it is a's TURN in YEAR 2
-        x = Check.of(DUEL);
+        x = Check.of(Check.DUEL);
         x.nod(0);
         x.go(1);
         x.nod(1);
@@ -80,7 +74,7 @@ public final class Promises26To35Test {
         for (int what = 0; what < 2; what++) {
             CHECK.due("100 YEARS", Check.of("house a 9 9 1 20 0;law death 0;law raise year = 99;").nextRaise(what), -2);
             CHECK.due("no HOUSES", new BidLines().nextRaise(what), -2);
-            BidLines x = Check.of(DUEL);
+            BidLines x = Check.of(Check.DUEL);
             x.go(3);
             CHECK.due("none may", x.nextRaise(what), -2);
             x.go(3);
@@ -94,7 +88,7 @@ public final class Promises26To35Test {
 
     @Says(promise = 27, sentence = "NONE for another what.")
     static void p27AnotherWhat() {
-        BidLines x = Check.of(DUEL);
+        BidLines x = Check.of(Check.DUEL);
         for (int what : NO_WHAT) {
             CHECK.due("nextRaise(" + what + ")", x.nextRaise(what), -1);
             CHECK.due("none RAISED, nextRaise(" + what + ")", new BidLines().nextRaise(what), -1);
@@ -122,7 +116,7 @@ public final class Promises26To35Test {
     @Says(promise = 28, sentence = "-2: there is none;")
     static void p28None() {
         CHECK.due("one told", Check.of("house a 9 0 1 20 0;").rival(0), -2);
-        BidLines x = Check.of(DUEL);
+        BidLines x = Check.of(Check.DUEL);
         x.marry(0, 1);
         CHECK.due("of the only one", x.rival(0), -2);
         CHECK.due("of the one that is ENDED", x.rival(1), 0);
@@ -133,8 +127,8 @@ public final class Promises26To35Test {
 
     @Says(promise = 28, sentence = "NONE: no such HOUSE.")
     static void p28NoSuchHouse() {
-        BidLines x = Check.of(DUEL);
-        for (int house : NO_HOUSE) {
+        BidLines x = Check.of(Check.DUEL);
+        for (int house : Check.NO_HOUSE) {
             CHECK.due("rival(" + house + ")", x.rival(house), -1);
         }
         CHECK.due("no HOUSES", new BidLines().rival(0), -1);
@@ -156,13 +150,14 @@ public final class Promises26To35Test {
         CHECK.due("YEAR 98", Check.of(late + "98) * 100;").left(99), 0);
         CHECK.due("YEAR 99", Check.of(late + "99) * 100;").left(99), 1);
         CHECK.due("no HOUSES", new BidLines().left(99), 0);
-        CHECK.due("nobody DIES when it has FALLEN", Check.of("house a 9 0 1 20 0;calls 1;law death (year > 1) * 100;").left(99), 1);
+        x = Check.of("house a 9 0 1 20 0;calls 1;law death (year > 1) * 100;");
+        CHECK.due("nobody DIES when it has FALLEN", x.left(99), 1);
     }
 
     @Says(promise = 29, sentence = "NONE: no such n.")
     static void p29NoSuchN() {
-        BidLines x = Check.of(DUEL);
-        for (int n : new int[] {-1, 100, 101, LEAST, GREATEST}) {
+        BidLines x = Check.of(Check.DUEL);
+        for (int n : new int[] {-1, 100, 101, Check.LEAST, Check.GREATEST}) {
             CHECK.due("left(" + n + ")", x.left(n), -1);
         }
     }
@@ -189,8 +184,9 @@ public final class Promises26To35Test {
         String late = "house a 0 0 9 20 9;law death (year = 40) * 100;law will 9;law raise 0;";
         for (int what = 0; what < 2; what++) {
             CHECK.due("YEAR 41", Check.of(late).when(0, 40, what), -2);
-            CHECK.due("it FALLS to another one", Check.of("house a 9 0 1 20 0;house b 99 0 9 20 0;law death 0;").when(0, 9, what), -2);
-            BidLines x = Check.of(DUEL);
+            BidLines x = Check.of("house a 9 0 1 20 0;house b 99 0 9 20 0;law death 0;");
+            CHECK.due("it FALLS to another one", x.when(0, 9, what), -2);
+            x = Check.of(Check.DUEL);
             x.go(6);
             CHECK.due("FALLEN", x.when(0, 40, what), -2);
         }
@@ -198,11 +194,11 @@ public final class Promises26To35Test {
 
     @Says(promise = 30, sentence = "NONE: no such ones, not IN.")
     static void p30NoSuchOnes() {
-        BidLines x = Check.of(DUEL);
-        for (int house : NO_HOUSE) {
+        BidLines x = Check.of(Check.DUEL);
+        for (int house : Check.NO_HOUSE) {
             CHECK.due("when(" + house + ", 5, 0)", x.when(house, 5, 0), -1);
         }
-        for (int n : new int[] {-1, 41, 42, LEAST, GREATEST}) {
+        for (int n : new int[] {-1, 41, 42, Check.LEAST, Check.GREATEST}) {
             CHECK.due("when(0, " + n + ", 0)", x.when(0, n, 0), -1);
             CHECK.due("when(0, " + n + ", 1)", x.when(0, n, 1), -1);
         }
@@ -216,7 +212,7 @@ public final class Promises26To35Test {
 
     @Says(promise = 31, sentence = "MATCH;")
     static void p31Match() {
-        BidLines x = Check.of(DUEL + "house c 5 0 1 20 0;");
+        BidLines x = Check.of(Check.DUEL + "house c 5 0 1 20 0;");
         String stands = Check.picture(x);
         CHECK.due("b with c: 30 is enough", x.match(1), 2);
         CHECK.dueSame("nothing changes", Check.picture(x), stands);
@@ -235,15 +231,15 @@ public final class Promises26To35Test {
     static void p31None() {
         CHECK.due("too little", Check.of("house a 1 0 9 20 1;house b 2 0 1 20 1;open 9;").match(0), -2);
         CHECK.due("no other", Check.of("house a 99 0 9 20 1;law death 0;").match(0), -2);
-        BidLines x = Check.of(DUEL);
+        BidLines x = Check.of(Check.DUEL);
         x.marry(0, 1);
         CHECK.due("the other one is ENDED", x.match(0), -2);
     }
 
     @Says(promise = 31, sentence = "NONE: no such HOUSE, not IN.")
     static void p31NoSuchHouse() {
-        BidLines x = Check.of(DUEL);
-        for (int house : NO_HOUSE) {
+        BidLines x = Check.of(Check.DUEL);
+        for (int house : Check.NO_HOUSE) {
             CHECK.due("match(" + house + ")", x.match(house), -1);
         }
         x.marry(0, 1);
@@ -301,7 +297,7 @@ public final class Promises26To35Test {
     @Says(promise = 33, sentence = "NONE: no such n.")
     static void p33NoSuchN() {
         BidLines x = Check.of("part a 9 0;");
-        for (int n : new int[] {-1, 1000, 1001, LEAST, GREATEST}) {
+        for (int n : new int[] {-1, 1000, 1001, Check.LEAST, Check.GREATEST}) {
             CHECK.due("sameIn(" + n + ")", x.sameIn(n), -1);
             CHECK.due("no PARTS, sameIn(" + n + ")", new BidLines().sameIn(n), -1);
         }
@@ -329,7 +325,7 @@ public final class Promises26To35Test {
     static void p34NoParts() {
         for (int what = 0; what < 2; what++) {
             CHECK.due("no LINES", new BidLines().nextPart(what), -2);
-            CHECK.due("no PARTS", Check.of(DUEL).nextPart(what), -2);
+            CHECK.due("no PARTS", Check.of(Check.DUEL).nextPart(what), -2);
         }
     }
 
@@ -358,8 +354,8 @@ public final class Promises26To35Test {
     static void p35ByNone() {
         BidLines x = Check.of("house a 99 0 5 20 0;house b 0 0 5 20 0;law death 0;");
         CHECK.due("it may not", x.hush(1, 9), -2);
-        CHECK.due("its TURN is later", Check.of(DUEL).hush(1, 1), -2);
-        x = Check.of(DUEL);
+        CHECK.due("its TURN is later", Check.of(Check.DUEL).hush(1, 1), -2);
+        x = Check.of(Check.DUEL);
         x.go(6);
         CHECK.due("FALLEN to another one", x.hush(1, 9), -2);
         CHECK.due("FALLEN to it", x.hush(0, 9), 0);
@@ -367,11 +363,11 @@ public final class Promises26To35Test {
 
     @Says(promise = 35, sentence = "NONE: no such ones, not IN.")
     static void p35NoSuchOnes() {
-        BidLines x = Check.of(DUEL);
-        for (int house : NO_HOUSE) {
+        BidLines x = Check.of(Check.DUEL);
+        for (int house : Check.NO_HOUSE) {
             CHECK.due("hush(" + house + ", 5)", x.hush(house, 5), -1);
         }
-        for (int n : new int[] {0, -1, 41, 42, LEAST, GREATEST}) {
+        for (int n : new int[] {0, -1, 41, 42, Check.LEAST, Check.GREATEST}) {
             CHECK.due("hush(0, " + n + ")", x.hush(0, n), -1);
         }
         x.marry(0, 1);

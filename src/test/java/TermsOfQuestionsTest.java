@@ -1,8 +1,6 @@
 /** Terms, ==== 3: what each question asks, but for what was SEEN, sentence by sentence. */
 public final class TermsOfQuestionsTest {
     private static final Check CHECK = new Check();
-    /** a bids 10, b 15, a 25, then none may; FALLEN behind YEAR 5. */
-    private static final String DUEL = "house a 30 0 10 20 0;house b 25 0 5 20 0;law death 0;";
     /** a may RAISE in one YEAR, which is told behind it, and has the table at 1 a YEAR later. */
     private static final String LATE = "house a 9 9 1 20 0;law death 0;calls 1;law raise year = ";
     /** Both DIE in each YEAR but the first one, without HEIRS. */
@@ -17,7 +15,7 @@ public final class TermsOfQuestionsTest {
     @Says(promise = 0,
             sentence = "AHEAD for n YEARS as it goes: BID, who LEADS, how many are IN, how often heads DIED more.")
     static void ahead() {
-        BidLines x = Check.of(DUEL);
+        BidLines x = Check.of(Check.DUEL);
         int[] bid = {0, 10, 15, 25, 25, 25, 25, 25};
         int[] leads = {-2, 0, 1, 0, 0, 0, 0, 0};
         for (int n = 0; n < bid.length; n++) {
@@ -42,7 +40,7 @@ public final class TermsOfQuestionsTest {
     @Says(promise = 0,
             sentence = "FALLS: in how many YEARS as it goes, 999 at most, the table has FALLEN (0: it has).")
     static void falls() {
-        BidLines x = Check.of(DUEL);
+        BidLines x = Check.of(Check.DUEL);
         for (int year = 0; year <= 7; year++) {
             CHECK.due("in YEAR " + year, x.falls(0), Math.max(0, 6 - year));
             x.go(1);
@@ -83,7 +81,7 @@ public final class TermsOfQuestionsTest {
         CHECK.due("119 YEARS", Check.of(LATE + "117;").letGo(0), 0);
         CHECK.due("120 YEARS", Check.of(LATE + "118;").letGo(0), 0);
         CHECK.due("121 YEARS", Check.of(LATE + "119;").letGo(0), -2);
-        BidLines x = Check.of(DUEL);
+        BidLines x = Check.of(Check.DUEL);
         CHECK.due("it FALLS to a", x.letGo(0), 0);
         // b needs 30 for 30, and a goes to 30 only: it stops at 25
         CHECK.due("b", x.letGo(1), 5);
@@ -100,6 +98,7 @@ public final class TermsOfQuestionsTest {
         CHECK.due("all six", Check.of("house a 1 0 1 20 0;house b 1 0 1 20 0;house c 1 0 1 20 0;house d 1 0 1 20 0;"
                 + "house e 1 0 1 20 0;house f 1 0 1 20 0;open 5;").outbid(), 63);
         CHECK.due("no HOUSES", new BidLines().outbid(), -2);
+        CHECK.due("no HOUSES, a BID", Check.of("open 5;").outbid(), -2);
         BidLines x = Check.of("house a 5 0 1 20 0;house b 9 0 1 20 0;house c 8 0 1 20 0;");
         x.marry(2, 1);
         x.will(2, 4);
@@ -287,6 +286,9 @@ public final class TermsOfQuestionsTest {
         CHECK.due("not yet", x.when(0, 3, 0), -2);
         CHECK.due("then", x.when(0, 4, 0), 4);
         CHECK.due("at", x.when(0, 4, 1), 6);
+        // as it goes nobody DIES of 49 in YEAR 0, where the first number is 0, and of 50 it does in YEAR 1
+        x = Check.of("house a 5 0 6 20 1;law death (year = 0) * 49 + (year = 1) * 50;law will 6;law raise 0;");
+        CHECK.due("as it goes", x.when(0, 9, 0), 2);
         // it isn't IN behind YEAR 0
         x = Check.of("house a 5 0 5 20 0;law death 100;law raise 0;");
         CHECK.due("while it is IN", x.when(0, 9, 0), 0);
@@ -346,8 +348,14 @@ public final class TermsOfQuestionsTest {
         CHECK.due("b isn't IN", x.match(0), 2);
         x.marry(0, 2);
         CHECK.due("there is no other", x.match(0), -2);
-        // the least that does: c is less, but too little
-        CHECK.due("c is too little", Check.of(text + "house d 5 0 10 20 1;").match(0), 1);
+        // the least that does: d is less, but too little
+        CHECK.due("d is too little", Check.of(text + "house d 5 0 10 20 1;").match(0), 1);
+        // BOUNDS are those of now, not those that wills leave on the way: c has 5 then
+        CHECK.due("20 now, not 33", Check.of("house a 10 0 1 20 9;house b 20 0 10 20 9;house c 33 0 10 20 9;open 15;"
+                + "calls 1;law death (bound = 33) * 100;law will 5;").match(0), 1);
+        // a alone RAISES; c is too little, and while it is tried b has 900
+        CHECK.due("20 now, not 25", Check.of("house a 10 1 1 20 9;house b 20 0 10 20 9;house c 2 0 10 20 9;"
+                + "house d 25 0 10 20 9;open 15;calls 1;law raise worth;law death (bound = 20) * 100;law will 900;").match(0), 1);
     }
 
     @Says(promise = 0,
@@ -606,7 +614,7 @@ public final class TermsOfQuestionsTest {
 
     @Says(promise = 0, sentence = "2 HOUSE i never RAISES,")
     static void triedHushed() {
-        BidLines x = Check.of(DUEL);
+        BidLines x = Check.of(Check.DUEL);
         CHECK.due("without a b bids 5", x.tried(2, 0, 99), 5);
         CHECK.due("without b a bids 10", x.tried(2, 1, 99), 10);
         CHECK.due("a has the TURN in YEAR 0 still", x.tried(2, 0, 1), 0);
@@ -617,7 +625,7 @@ public final class TermsOfQuestionsTest {
 
     @Says(promise = 0, sentence = "3 all have STEP 1,")
     static void triedBySmallSteps() {
-        BidLines x = Check.of(DUEL);
+        BidLines x = Check.of(Check.DUEL);
         CHECK.due("behind 4", x.tried(3, 0, 4), 4);
         CHECK.due("a 25, b may not go to 26", x.tried(3, 0, 99), 25);
         CHECK.due("a STEP of 99 is 1", Check.of("house a 1 0 99 20 0;law death 0;").tried(3, 0, 1), 1);
@@ -631,7 +639,8 @@ public final class TermsOfQuestionsTest {
         BidLines x = Check.of("house a 0 0 9 20 0;open 991;law death 0;");
         x.will(0, 9999);
         CHECK.due("less than its BOUND", x.tried(4, 0, 1), 991);
-        CHECK.due("all of them", Check.of("house a 0 0 9 20 0;house b 0 0 9 20 0;law death 0;").tried(4, 0, 4), 36);
+        CHECK.due("all of them", Check.of("house a 0 0 9 20 0;house b 0 0 9 20 0;house c 0 0 9 20 0;house d 0 0 9 20 0;"
+                + "house e 0 0 9 20 0;house f 0 0 9 20 0;law death 0;").tried(4, 0, 12), 108);
         CHECK.due("now: wills change them", Check.of("house a 0 0 9 20 9;law death 100;law will 8;").tried(4, 0, 9), 0);
     }
 }

@@ -181,6 +181,11 @@ public final class TermsOfTextTest {
         CHECK.dueFault("law will 1 < (2 = 3) < 4;", 1, 21);
         CHECK.dueFault("law will 1 + 2 < 3 + 4 < 5;", 1, 23);
         CHECK.dueGood("law will not 1 < 2 and not 3 < 4;", 1);
+        // both sides are an S
+        CHECK.dueValue("1 < 2 + 3", 1);
+        CHECK.dueValue("2 + 3 < 1", 0);
+        CHECK.dueValue("5 - 3 = 4 - 2", 1);
+        CHECK.dueValue("2 * 3 > 5 * 1", 1);
     }
 
     @Says(promise = 0, sentence = "S: T { ( + | - ) T }. T: P { ( * | / ) P }.")
@@ -347,7 +352,8 @@ public final class TermsOfTextTest {
         CHECK.due("without", x.falls(0), 3);
         CHECK.dueFault("calls 0;", 2, 6);
         CHECK.dueFault("calls 21;", 2, 6);
-        // a text without, behind one with
+        // a text without, behind those with
+        Check.tell(x, "calls 7;");
         Check.tell(x, "calls 7;");
         Check.tell(x, house);
         x.nod(0);
@@ -360,6 +366,7 @@ public final class TermsOfTextTest {
         CHECK.due("open 999", Check.of("open 999;").count(4), 999);
         CHECK.dueFault("open 1000;", 2, 5);
         BidLines x = Check.of("open 7;");
+        Check.tell(x, "open 7;");
         Check.tell(x, "calls 7;");
         CHECK.due("without", x.count(4), 0);
     }
@@ -373,6 +380,7 @@ public final class TermsOfTextTest {
         CHECK.dueFault("seed 100000;", 2, 5);
         CHECK.dueFault("seed 99999999999999999999;", 2, 5);
         BidLines x = Check.of(house + "seed 99999;");
+        Check.tell(x, house + "seed 99999;");
         Check.tell(x, house);
         dueSeed(x, 0);
     }
@@ -483,12 +491,29 @@ public final class TermsOfTextTest {
             CHECK.dueFault(text + " \n ", 1, text.length() + 3);
             CHECK.dueFault("law death 1;" + text, 1, text.length() + 12);
         }
+    }
+
+    @Says(promise = 0, sentence = "(the length, if more must come).")
+    static void faultAtTheLengthOfTheTextAlone() {
         // bytes of the tape behind the text's first n don't count
         BidLines x = new BidLines();
         Check.put(x, "calls 3;");
         CHECK.due("its first 7 bytes", x.text(7), -1);
         CHECK.due("kind", x.fault(0), 1);
         CHECK.due("place", x.fault(1), 7);
+        // also where they would make a token longer
+        String[] whole = {"house", "open 12;", "law will 1 <= 1;", "law will 1 <> 1;", "law will 1 >= 1;", "open  "};
+        int[] cut = {3, 6, 12, 12, 12, 5};
+        int[] place = {0, 6, 12, 12, 12, 5};
+        for (int i = 0; i < whole.length; i++) {
+            Check.put(x, whole[i]);
+            CHECK.due(cut[i] + " bytes of '" + whole[i] + "'", x.text(cut[i]), -1);
+            CHECK.due("kind", x.fault(0), 1);
+            CHECK.due("place", x.fault(1), place[i]);
+        }
+        CHECK.dueFault(" ".repeat(694) + "open 5", 1, 700);
+        CHECK.dueFault(" ".repeat(688) + "law will 1 <", 1, 700);
+        CHECK.dueFault(" ".repeat(696) + "open", 1, 700);
     }
 
     @Says(promise = 0, sentence = "2 too much (at it): a number beyond what is said,")
@@ -533,6 +558,14 @@ public final class TermsOfTextTest {
         CHECK.dueGood("law will " + "(1) + ".repeat(20) + "1;", 1);
         CHECK.dueFault("law will " + eight + " + (" + eight + ");", 2, 37);
         CHECK.dueFault("law will ((((((((1) + (1) + ((1))));", 2, 29);
+        // nor do those of a text with a FAULT
+        BidLines x = new BidLines();
+        CHECK.due("nine", Check.tell(x, "law will 2 * (3 + " + "(".repeat(8)), -1);
+        CHECK.due("eight", Check.tell(x, "house a 1 1 1 1 1;law will " + eight + " + 6;"), 2);
+        CHECK.due("its value", x.law(1, 0), 7);
+        CHECK.due("signs of one with a FAULT", Check.tell(x, "law will 2 + 3 * 4 + !"), -1);
+        CHECK.due("don't count either", Check.tell(x, "house a 1 1 1 1 1;law will " + eight + ";"), 2);
+        CHECK.due("its value", x.law(1, 0), 1);
     }
 
     @Says(promise = 0, sentence = "a 65th KNOT of all E (N, NAMES, signs, not, and, or: one each).")
@@ -555,6 +588,11 @@ public final class TermsOfTextTest {
         }
         // what isn't named there isn't one
         CHECK.due("'(' and ')'", Check.of(KNOTS_63 + "law will ((((1))));").count(2), 64);
+        // all 64 of them, and eight '(', are worked out
+        CHECK.dueValue("not ".repeat(63) + "0", 1);
+        CHECK.dueValue("not ".repeat(62) + "0", 0);
+        CHECK.dueValue("((((((((" + "not ".repeat(63) + "0))))))))", 1);
+        CHECK.dueValue("not ".repeat(55) + "((((((((not not not not not not not not 0))))))))", 1);
         // a text begins with none, also behind one with a FAULT
         BidLines x = Check.of(KNOTS_63 + "law will 1;");
         CHECK.due("65 knots", Check.tell(x, KNOTS_63 + "law will 1 + 1;"), -1);

@@ -530,5 +530,11 @@ public final class TermsOfYearTest {
             other.go(1);
             CHECK.due("HEIRS behind year " + year, one.house(0, 4), other.house(0, 4));
         }
+        // behind YEARS by numbers, too: the first number from seed 0 on is 0
+        BidLines x = Check.of("house a 0 0 1 20 9;law death 49 * (year > 0);");
+        x.go(1);
+        CHECK.due("of 49", x.ahead(99, 3), 0);
+        x.chance(0, 5, 0);
+        CHECK.due("of 49 behind chance()", x.ahead(99, 3), 0);
     }
 }
