@@ -137,7 +137,7 @@ public final class ModelTest {
             lines.add("house " + (char) ('a' + i) + " " + bound + " " + random.nextInt(600) + " "
                     + (1 + random.nextInt(25)) + " " + age + " " + random.nextInt(random.nextBoolean() ? 3 : 10));
         }
-        int parts = random.nextInt(5);
+        int parts = random.nextInt(7);
         for (int i = 0; i < parts; i++) {
             lines.add("part " + (char) ('b' + i) + " " + (1 + random.nextInt(random.nextBoolean() ? 99 : 9)) + " "
                     + random.nextInt(random.nextBoolean() ? 99 : 5));

@@ -111,6 +111,11 @@ public final class Promises26To35Test {
         CHECK.due("one that is ENDED isn't", x.rival(2), 1);
         CHECK.due("of b", x.rival(1), 2);
         CHECK.due("BOUND 0", Check.of("house a 0 0 1 20 0;house b 0 0 1 20 0;").rival(1), 0);
+        BidLines six = Check.of("house a 1 0 1 20 0;house b 2 0 1 20 0;house c 3 0 1 20 0;house d 4 0 1 20 0;"
+                + "house e 5 0 1 20 0;house f 6 0 1 20 0;");
+        for (int house = 0; house < 6; house++) {
+            CHECK.due("of " + house + " of six", six.rival(house), house == 5 ? 4 : 5);
+        }
     }
 
     @Says(promise = 28, sentence = "-2: there is none;")
